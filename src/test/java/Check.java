@@ -1,0 +1,99 @@
+import java.util.Objects;
+
+/** Counts the answers that are not as due, and prints each. */
+final class Check {
+    interface Call {
+        Object make();
+    }
+
+    static final Class<?> BOUNDS = IndexOutOfBoundsException.class;
+    static final Class<?> ARGUMENT = IllegalArgumentException.class;
+    static final Class<?> STATE = IllegalStateException.class;
+
+    private int made;
+    private int wrong;
+
+    void due(String call, Object got, Object want) {
+        made++;
+        if (!Objects.equals(got, want)) {
+            wrong++;
+            System.out.println(call + " answered " + got + ", due is " + want);
+        }
+    }
+
+    /** The class itself is compared: what the machine throws may be of a class below one that is due. */
+    void throwing(String call, Class<?> want, Call made) {
+        due(call, thrownBy(made), want);
+    }
+
+    private static Object thrownBy(Call call) {
+        try {
+            return call.make();
+        } catch (RuntimeException thrown) {
+            return thrown.getClass();
+        }
+    }
+
+    /** Ends the test: with 1, if an answer was wrong. */
+    void close() {
+        System.out.println(made + " answers, " + wrong + " not as due");
+        if (wrong != 0) {
+            System.exit(1);
+        }
+    }
+
+    // ---- what many tests begin with
+
+    static Fieldgrammar draft(Fieldgrammar camp, int... sounds) {
+        camp.wipe();
+        for (int sound : sounds) {
+            camp.put(sound);
+        }
+        return camp;
+    }
+
+    static int lexeme(Fieldgrammar camp, int... sounds) {
+        return draft(camp, sounds).lexeme();
+    }
+
+    static int word(Fieldgrammar camp, int lexeme, int cell, int speaker, int... sounds) {
+        return draft(camp, sounds).hear(lexeme, cell, speaker);
+    }
+
+    static boolean exception(Fieldgrammar camp, int lexeme, int cell, int... sounds) {
+        return draft(camp, sounds).except(lexeme, cell, true);
+    }
+
+    static void ending(Fieldgrammar camp, int cell, int... sounds) {
+        draft(camp, sounds).ending(cell);
+    }
+
+    /** A camp with the sounds 0 to count - 1, the features of each being its number as bits. */
+    static Fieldgrammar camp(int count) {
+        Fieldgrammar camp = new Fieldgrammar();
+        for (int sound = 0; sound < count; sound++) {
+            camp.sound(sound);
+        }
+        return camp;
+    }
+
+    /** The word of a lexeme in a cell, as a text like "0 3 1". */
+    static String spoken(Fieldgrammar camp, int lexeme, int cell) {
+        StringBuilder text = new StringBuilder();
+        for (int place = 0; place < camp.length(lexeme, cell); place++) {
+            text.append(place == 0 ? "" : " ").append(camp.at(lexeme, cell, place));
+        }
+        return text.toString();
+    }
+
+    /** What the draft holds, by way of an exception that is taken back; the draft is put again. */
+    static String draftOf(Fieldgrammar camp, int lexeme, int freeCell) {
+        camp.except(lexeme, freeCell, true);
+        String text = spoken(camp, lexeme, freeCell);
+        camp.except(lexeme, freeCell, false);
+        for (String sound : text.isEmpty() ? new String[0] : text.split(" ")) {
+            camp.put(Integer.parseInt(sound));
+        }
+        return text;
+    }
+}
