@@ -21,7 +21,6 @@ final class Check {
         }
     }
 
-    /** The class itself is compared: what the machine throws may be of a class below one that is due. */
     void throwing(String call, Class<?> want, Call made) {
         due(call, thrownBy(made), want);
     }
@@ -30,8 +29,18 @@ final class Check {
         try {
             return call.make();
         } catch (RuntimeException thrown) {
-            return thrown.getClass();
+            return classOf(thrown, Fieldgrammar.class);
         }
+    }
+
+    /**
+     * The class of what was thrown, if the code of the thrower threw it. What the machine or the library throws may be
+     * of the class that is due, or of one below it, and is told apart by its class and where it comes from.
+     */
+    static Object classOf(Throwable thrown, Class<?> thrower) {
+        StackTraceElement[] trace = thrown.getStackTrace();
+        boolean isOwn = trace.length > 0 && trace[0].getClassName().startsWith(thrower.getName());
+        return isOwn ? thrown.getClass() : thrown + ", not thrown by " + thrower.getName();
     }
 
     /** Ends the test: with 1, if an answer was wrong. */

@@ -102,6 +102,12 @@ public final class ContrastsTest {
 
     private static void shared() {
         Fieldgrammar camp = campWithThree();
+        Check.word(camp, 2, 3, 2, 1);
+        Check.word(camp, 2, 3, 3, 1);
+        check.due("the first two words", camp.shared(2, 3), 1);
+        check.due("the first two words the other way round", camp.shared(3, 2), 1);
+        camp.forget(0);
+        camp.forget(1);
         Check.word(camp, 0, 0, 0, 1);
         Check.word(camp, 0, 0, 0, 2);
         Check.word(camp, 0, 0, 1, 2);
@@ -117,9 +123,9 @@ public final class ContrastsTest {
         Check.word(camp, 2, 7, 1);
         check.due("empty forms", camp.shared(0, 1), 2);
         check.due("another speaker", camp.shared(0, 2), 0);
-        camp.forget(0);
-        check.due("one of two forgotten", camp.shared(0, 1), 2);
         camp.forget(2);
+        check.due("one of two forgotten", camp.shared(0, 1), 2);
+        camp.forget(4);
         check.due("the other one's forgotten", camp.shared(0, 1), 1);
         Check.word(camp, 0, 1, 1, 1);
         check.due("unlike lexemes", camp.shared(0, 1), 1);

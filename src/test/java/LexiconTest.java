@@ -46,12 +46,16 @@ public final class LexiconTest {
 
     private static void mergeMovesExceptions() {
         Fieldgrammar camp = campWithThree();
+        Check.exception(camp, 0, 0, 3, 3, 0);
+        Check.exception(camp, 0, 7, 3, 3, 1);
         Check.exception(camp, 0, 1, 3, 0);
         Check.exception(camp, 0, 2, 3, 1);
         Check.exception(camp, 0, 6);
         Check.exception(camp, 1, 2, 3, 2);
         Check.exception(camp, 1, 3, 3, 3);
         camp.merge(0, 1);
+        check.due("one of the first cell", Check.spoken(camp, 1, 0), "3 3 0");
+        check.due("one of the last cell", Check.spoken(camp, 1, 7), "3 3 1");
         check.due("one that it had none for", Check.spoken(camp, 1, 1), "3 0");
         check.due("one that it had", Check.spoken(camp, 1, 2), "3 2");
         check.due("one that it alone had", Check.spoken(camp, 1, 3), "3 3");

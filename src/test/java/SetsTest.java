@@ -12,6 +12,7 @@ public final class SetsTest {
         smallest();
         question();
         questionOfTheMost();
+        questionOfAnIdleRule();
         questionOfLowest();
         questionOfFreeCells();
         questionByFittingSets();
@@ -131,6 +132,15 @@ public final class SetsTest {
         camp.forget(1);
         Check.exception(camp, 0, 3, 1);
         check.due("that of another lexeme", camp.question(), 8 + 3);
+    }
+
+    /** Two sets fit, that of no rules among them, but they tell the same word. */
+    private static void questionOfAnIdleRule() {
+        Fieldgrammar camp = Check.camp(1);
+        camp.rule(camp.kind(1, 0), 0, ANY, ANY);
+        Check.lexeme(camp, 0, 0);
+        check.due("fitting()", camp.fitting(), 2);
+        check.due("question()", camp.question(), -1);
     }
 
     private static void questionOfLowest() {

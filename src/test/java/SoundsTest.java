@@ -99,6 +99,13 @@ public final class SoundsTest {
         check.due("left by class 1, 2", Check.spoken(camp, lexeme, 0), "0 2 3 4");
         int later = Check.lexeme(camp, 6, 7, 8);
         check.due("left of later sounds", Check.spoken(camp, later, 0), "6 8");
+        int withoutOne = camp.kind(0, 1);
+        camp.sound(17);
+        camp.sound(18);
+        camp.turn(0, false);
+        camp.rule(withoutOne, 0, Fieldgrammar.ANY, Fieldgrammar.ANY);
+        int latest = Check.lexeme(camp, 9, 10, 7);
+        check.due("left of the latest sounds", Check.spoken(camp, latest, 0), "9 7");
     }
 
     private static void put() {
