@@ -86,6 +86,15 @@ final class Check {
         return camp;
     }
 
+    /** A camp with four sounds and three lexemes, of one sound each. */
+    static Fieldgrammar campWithThree() {
+        Fieldgrammar camp = camp(4);
+        lexeme(camp, 0);
+        lexeme(camp, 1);
+        lexeme(camp, 2);
+        return camp;
+    }
+
     /** The word of a lexeme in a cell, as a text like "0 3 1". */
     static String spoken(Fieldgrammar camp, int lexeme, int cell) {
         StringBuilder text = new StringBuilder();

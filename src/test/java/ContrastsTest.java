@@ -13,16 +13,8 @@ public final class ContrastsTest {
         check.close();
     }
 
-    private static Fieldgrammar campWithThree() {
-        Fieldgrammar camp = Check.camp(4);
-        Check.lexeme(camp, 0);
-        Check.lexeme(camp, 1);
-        Check.lexeme(camp, 2);
-        return camp;
-    }
-
     private static void pairs() {
-        Fieldgrammar camp = campWithThree();
+        Fieldgrammar camp = Check.campWithThree();
         Check.word(camp, 0, 0, 0, 0, 1, 2);
         Check.word(camp, 1, 5, 3, 0, 2, 2);
         check.due("pairs(1, 2)", camp.pairs(1, 2), 1);
@@ -45,7 +37,7 @@ public final class ContrastsTest {
     }
 
     private static void pairsOfUnlikeLexemes() {
-        Fieldgrammar camp = campWithThree();
+        Fieldgrammar camp = Check.campWithThree();
         Check.word(camp, 0, 0, 0, 0);
         Check.word(camp, 0, 1, 0, 1);
         check.due("of one lexeme", camp.pairs(0, 1), 0);
@@ -66,7 +58,7 @@ public final class ContrastsTest {
     }
 
     private static void pairsThrow() {
-        Fieldgrammar camp = campWithThree();
+        Fieldgrammar camp = Check.campWithThree();
         check.throwing("pairs(3, 3)", Check.ARGUMENT, () -> camp.pairs(3, 3));
         check.throwing("pairs(4, 4)", Check.BOUNDS, () -> camp.pairs(4, 4));
         check.throwing("pairs(0, 4)", Check.BOUNDS, () -> camp.pairs(0, 4));
@@ -76,7 +68,7 @@ public final class ContrastsTest {
     }
 
     private static void holes() {
-        Fieldgrammar camp = campWithThree();
+        Fieldgrammar camp = Check.campWithThree();
         check.due("holes(0)", camp.holes(0), 255);
         camp.hear(0, 0, 0);
         camp.hear(0, 7, 3);
@@ -101,7 +93,7 @@ public final class ContrastsTest {
     }
 
     private static void shared() {
-        Fieldgrammar camp = campWithThree();
+        Fieldgrammar camp = Check.campWithThree();
         Check.word(camp, 2, 3, 2, 1);
         Check.word(camp, 2, 3, 3, 1);
         check.due("the first two words", camp.shared(2, 3), 1);
@@ -134,7 +126,7 @@ public final class ContrastsTest {
     }
 
     private static void sharedOfOne() {
-        Fieldgrammar camp = campWithThree();
+        Fieldgrammar camp = Check.campWithThree();
         Check.word(camp, 0, 0, 3, 1);
         Check.word(camp, 0, 0, 3, 2);
         Check.word(camp, 0, 6, 3, 2);
@@ -148,7 +140,7 @@ public final class ContrastsTest {
     }
 
     private static void sharedThrows() {
-        Fieldgrammar camp = campWithThree();
+        Fieldgrammar camp = Check.campWithThree();
         check.throwing("shared(0, 4)", Check.BOUNDS, () -> camp.shared(0, 4));
         check.throwing("shared(4, 0)", Check.BOUNDS, () -> camp.shared(4, 0));
         check.throwing("shared(-1, 0)", Check.BOUNDS, () -> camp.shared(-1, 0));

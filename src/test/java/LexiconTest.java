@@ -16,16 +16,8 @@ public final class LexiconTest {
         check.close();
     }
 
-    private static Fieldgrammar campWithThree() {
-        Fieldgrammar camp = Check.camp(4);
-        Check.lexeme(camp, 0);
-        Check.lexeme(camp, 1);
-        Check.lexeme(camp, 2);
-        return camp;
-    }
-
     private static void merge() {
-        Fieldgrammar camp = campWithThree();
+        Fieldgrammar camp = Check.campWithThree();
         Check.word(camp, 0, 0, 0, 0);
         Check.word(camp, 0, 5, 0, 1);
         Check.word(camp, 1, 2, 0, 1);
@@ -45,7 +37,7 @@ public final class LexiconTest {
     }
 
     private static void mergeMovesExceptions() {
-        Fieldgrammar camp = campWithThree();
+        Fieldgrammar camp = Check.campWithThree();
         Check.exception(camp, 0, 0, 3, 3, 0);
         Check.exception(camp, 0, 7, 3, 3, 1);
         Check.exception(camp, 0, 1, 3, 0);
@@ -65,7 +57,7 @@ public final class LexiconTest {
     }
 
     private static void mergeThrows() {
-        Fieldgrammar camp = campWithThree();
+        Fieldgrammar camp = Check.campWithThree();
         check.throwing("merge(1, 1)", Check.ARGUMENT, () -> camp.merge(1, 1));
         check.throwing("merge(3, 1)", Check.BOUNDS, () -> camp.merge(3, 1));
         check.throwing("merge(1, 3)", Check.BOUNDS, () -> camp.merge(1, 3));
@@ -79,7 +71,7 @@ public final class LexiconTest {
     }
 
     private static void split() {
-        Fieldgrammar camp = campWithThree();
+        Fieldgrammar camp = Check.campWithThree();
         Check.word(camp, 1, 0, 0, 0);
         Check.word(camp, 1, 1, 0, 1);
         Check.word(camp, 2, 0, 0, 2);
@@ -104,7 +96,7 @@ public final class LexiconTest {
     }
 
     private static void splitThrows() {
-        Fieldgrammar camp = campWithThree();
+        Fieldgrammar camp = Check.campWithThree();
         check.throwing("split(0, 0)", Check.ARGUMENT, () -> camp.split(0, 0));
         check.throwing("split(0, 256)", Check.ARGUMENT, () -> camp.split(0, 256));
         check.throwing("split(0, -1)", Check.ARGUMENT, () -> camp.split(0, -1));
@@ -122,7 +114,7 @@ public final class LexiconTest {
     }
 
     private static void undoOfMerge() {
-        Fieldgrammar camp = campWithThree();
+        Fieldgrammar camp = Check.campWithThree();
         Check.word(camp, 0, 0, 0, 0);
         Check.word(camp, 1, 0, 0, 1);
         Check.exception(camp, 0, 1, 3);
@@ -149,7 +141,7 @@ public final class LexiconTest {
     }
 
     private static void undoOfSplit() {
-        Fieldgrammar camp = campWithThree();
+        Fieldgrammar camp = Check.campWithThree();
         Check.word(camp, 0, 0, 0, 0);
         Check.word(camp, 0, 1, 0, 0);
         Check.exception(camp, 0, 0, 3);
@@ -174,7 +166,7 @@ public final class LexiconTest {
     }
 
     private static void undoInTurn() {
-        Fieldgrammar camp = campWithThree();
+        Fieldgrammar camp = Check.campWithThree();
         Check.word(camp, 0, 0, 0, 0);
         Check.word(camp, 1, 1, 0, 1);
         Check.word(camp, 2, 2, 0, 2);
@@ -199,7 +191,7 @@ public final class LexiconTest {
     }
 
     private static void undoThrows() {
-        Fieldgrammar camp = campWithThree();
+        Fieldgrammar camp = Check.campWithThree();
         camp.put(1);
         check.throwing("undo()", Check.STATE, () -> camp.undo());
         check.due("the draft stays", camp.wipe(), 1);
