@@ -12,12 +12,23 @@ final class Check {
 
     private int made;
     private int wrong;
+    private String about = "";
+
+    /** The answers behind this are about a sentence that stands ahead of the promises, or about a part of it. */
+    void term(String sentence) {
+        about = "\"" + sentence + "\": ";
+    }
+
+    /** The answers behind this are about a sentence of a promise, or about a part of it. */
+    void promise(int number, String sentence) {
+        about = "promise " + number + ", \"" + sentence + "\": ";
+    }
 
     void due(String call, Object got, Object want) {
         made++;
         if (!Objects.equals(got, want)) {
             wrong++;
-            System.out.println(call + " answered " + got + ", due is " + want);
+            System.out.println(about + call + " answered " + got + ", due is " + want);
         }
     }
 
@@ -25,7 +36,8 @@ final class Check {
         due(call, thrownBy(made), want);
     }
 
-    private static Object thrownBy(Call call) {
+    /** What a call answers, or the class of what it throws. */
+    static Object thrownBy(Call call) {
         try {
             return call.make();
         } catch (RuntimeException thrown) {

@@ -9,7 +9,8 @@ import java.util.Random;
  */
 public final class ModelTest {
     private static final int RUNS = 1500;
-    private static final int CALLS = 400;
+    // As many as the document promises of one object.
+    private static final int CALLS = 512;
     private static final int[] ODD = {-1, -2, -3, 4, 5, 6, 8, 12, 16, 40, 63, 64, 255, 256, Integer.MAX_VALUE,
         Integer.MIN_VALUE};
 
@@ -62,6 +63,7 @@ public final class ModelTest {
     private int lexemes;
     private int rules;
     private int words;
+    private int calls;
 
     private static int[] of(int... often) {
         return often;
@@ -88,8 +90,9 @@ public final class ModelTest {
         lexemes = 0;
         rules = 0;
         words = 0;
+        calls = 0;
         open(run);
-        for (int call = 0; call < CALLS; call++) {
+        while (calls < CALLS) {
             if (random.nextInt(run % 4 == 1 ? 8 : 25) == 0) {
                 hearWhatFits(run);
             } else {
@@ -176,6 +179,10 @@ public final class ModelTest {
     }
 
     private void make(int run, int number, Object... arguments) throws IllegalAccessException {
+        if (calls == CALLS) {
+            return;
+        }
+        calls++;
         Sort sort = SORTS[number];
         Class<?>[] types = new Class<?>[arguments.length];
         for (int place = 0; place < arguments.length; place++) {
