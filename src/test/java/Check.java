@@ -89,6 +89,17 @@ final class Check {
         draft(camp, sounds).ending(cell);
     }
 
+    /** The calls that answer nothing, as ones that do, so that throwing takes them. */
+    static Object reformed(Fieldgrammar camp, int lexeme) {
+        camp.reform(lexeme);
+        return "nothing";
+    }
+
+    static Object ended(Fieldgrammar camp, int cell) {
+        camp.ending(cell);
+        return "nothing";
+    }
+
     /** A camp with the sounds 0 to count - 1, the features of each being its number as bits. */
     static Fieldgrammar camp(int count) {
         Fieldgrammar camp = new Fieldgrammar();

@@ -56,7 +56,8 @@ public final class FaceTest {
         }
         for (Method method : Fieldgrammar.class.getDeclaredMethods()) {
             if (Modifier.isPrivate(method.getModifiers())) {
-                check.due("private method of a public one's name " + method.getName(), isPublic(method.getName()), false);
+                String name = method.getName();
+                check.due("private method of a public one's name " + name, isPublic(name), false);
             }
         }
         for (Class<?> inside : Fieldgrammar.class.getDeclaredClasses()) {

@@ -42,14 +42,7 @@ public final class LexemesTest {
     }
 
     private static void lexemeLimitCountsThoseGone() {
-        Fieldgrammar camp = Check.camp(1);
-        for (int number = 0; number < 15; number++) {
-            Check.lexeme(camp, 0);
-        }
-        camp.merge(0, 1);
-        camp.split(1, 1);
-        camp.undo();
-        camp.put(0);
+        Fieldgrammar camp = Camps.spent();
         check.throwing("lexeme() behind 16 that were", Check.STATE, () -> camp.lexeme());
         check.throwing("split(1, 1) behind 16 that were", Check.STATE, () -> camp.split(1, 1));
     }
@@ -63,11 +56,11 @@ public final class LexemesTest {
         check.due("its word", Check.spoken(camp, 0, 0), "2 1 2 0 0 0");
         check.due("the other one's", Check.spoken(camp, 1, 0), "1");
         check.due("wipe() behind it", camp.wipe(), 0);
-        check.throwing("reform(0) of none", Check.STATE, () -> reformed(camp, 0));
-        check.throwing("reform(2) of none", Check.BOUNDS, () -> reformed(camp, 2));
-        check.throwing("reform(-1)", Check.BOUNDS, () -> reformed(camp, -1));
+        check.throwing("reform(0) of none", Check.STATE, () -> Check.reformed(camp, 0));
+        check.throwing("reform(2) of none", Check.BOUNDS, () -> Check.reformed(camp, 2));
+        check.throwing("reform(-1)", Check.BOUNDS, () -> Check.reformed(camp, -1));
         Check.draft(camp, 0, 0, 0, 0, 0, 0, 0);
-        check.throwing("reform(1) of 7", Check.STATE, () -> reformed(camp, 1));
+        check.throwing("reform(1) of 7", Check.STATE, () -> Check.reformed(camp, 1));
         check.due("the draft stays", camp.wipe(), 7);
         check.due("the word stays", Check.spoken(camp, 1, 0), "1");
     }
@@ -78,13 +71,8 @@ public final class LexemesTest {
         Check.lexeme(camp, 1);
         camp.merge(0, 1);
         camp.put(1);
-        check.throwing("reform(0), gone", Check.BOUNDS, () -> reformed(camp, 0));
+        check.throwing("reform(0), gone", Check.BOUNDS, () -> Check.reformed(camp, 0));
         check.due("the draft stays", camp.wipe(), 1);
-    }
-
-    private static Object reformed(Fieldgrammar camp, int lexeme) {
-        camp.reform(lexeme);
-        return null;
     }
 
     private static void ending() {
@@ -108,16 +96,11 @@ public final class LexemesTest {
         Fieldgrammar camp = Check.camp(1);
         Check.lexeme(camp, 0);
         Check.draft(camp, 0, 0, 0);
-        check.throwing("ending(0) of 3", Check.STATE, () -> ended(camp, 0));
-        check.throwing("ending(8) of 3", Check.BOUNDS, () -> ended(camp, 8));
-        check.throwing("ending(-1) of 3", Check.BOUNDS, () -> ended(camp, -1));
-        check.throwing("ending(MIN)", Check.BOUNDS, () -> ended(camp, Integer.MIN_VALUE));
+        check.throwing("ending(0) of 3", Check.STATE, () -> Check.ended(camp, 0));
+        check.throwing("ending(8) of 3", Check.BOUNDS, () -> Check.ended(camp, 8));
+        check.throwing("ending(-1) of 3", Check.BOUNDS, () -> Check.ended(camp, -1));
+        check.throwing("ending(MIN)", Check.BOUNDS, () -> Check.ended(camp, Integer.MIN_VALUE));
         check.due("the draft stays", camp.wipe(), 3);
         check.due("length(0, 0)", camp.length(0, 0), 1);
-    }
-
-    private static Object ended(Fieldgrammar camp, int cell) {
-        camp.ending(cell);
-        return null;
     }
 }

@@ -81,6 +81,8 @@ public final class LexiconTermsTest {
         check.due("question()", camp.question(), 0);
         camp.merge(0, 1);
         check.due("question() of the other one", camp.question(), -1);
+        Check.lexeme(camp, 2);
+        check.due("question() of one behind both", camp.question(), 16);
         camp.undo();
         check.due("question() when it is there again", camp.question(), 0);
         camp.merge(1, 0);

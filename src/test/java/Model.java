@@ -6,7 +6,7 @@ import java.util.Map;
 import java.util.Set;
 import java.util.TreeMap;
 
-/** The document a second time, with lists and maps and without a thought of speed: what ModelTest holds the class to. */
+/** The document a second time, with lists and maps and no thought of speed: what ModelTest holds the class to. */
 public final class Model {
     private static final class Word {
         int lexeme;

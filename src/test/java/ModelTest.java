@@ -244,7 +244,8 @@ public final class ModelTest {
             case "bars":
                 return random.nextInt(6) == 0 ? random.nextInt(64) : random.nextInt(2) * (1 << random.nextInt(2));
             case "turned":
-                return random.nextInt(4) == 0 ? 0 : random.nextInt(6) == 0 ? random.nextInt(64) : 1 << random.nextInt(2);
+                int feature = 1 << random.nextInt(2);
+                return random.nextInt(4) == 0 ? 0 : random.nextInt(6) == 0 ? random.nextInt(64) : feature;
             case "sound":
                 return numberOf(sounds);
             case "kind":

@@ -57,7 +57,7 @@ public final class RangesTest {
         return camp;
     }
 
-    /** As many rules as there can be, of which rule n turns sound 0 into that with the feature n, ahead of any other. */
+    /** As many rules as there can be; rule n turns sound 0 into the one with the feature n, sound n + 1. */
     private static Fieldgrammar rules() {
         Fieldgrammar camp = new Fieldgrammar();
         camp.sound(0);
@@ -388,7 +388,7 @@ public final class RangesTest {
         check.due("at(9, 7, 1)", camp.at(9, 7, 1), 5);
     }
 
-    /** Places far behind the end, such as would wrap around if they were multiplied or shifted, have no sound either. */
+    /** Places far behind the end have no sound, also such as would wrap around if they were multiplied or shifted. */
     private static void placeOfAt() {
         check.promise(20, "- `place`: from 0 on");
         Fieldgrammar camp = lexemes();
@@ -445,7 +445,8 @@ public final class RangesTest {
     }
 
     private static void what() {
-        check.promise(22, "- `what`: 0 its lexeme, 1 its cell, 2 its speaker, 3 how long it is, 4 1 if it fits, otherwise 0");
+        check.promise(22, "- `what`: 0 its lexeme, 1 its cell, 2 its speaker, 3 how long it is,"
+                + " 4 1 if it fits, otherwise 0");
         Fieldgrammar camp = lexemes();
         int word = Check.word(camp, 15, 6, 1, 15, 15, 15);
         check.due("0: its lexeme", camp.ofWord(word, 0), 15);
@@ -482,8 +483,8 @@ public final class RangesTest {
     }
 
     private static void supports() {
-        check.promise(24,
-            "- `supports`: whether those that support it are counted, otherwise those that contradict it");
+        check.promise(24, "- `supports`: whether those that support it are counted,"
+                + " otherwise those that contradict it");
         Fieldgrammar camp = lexemesWithRules();
         Check.word(camp, 3, 0, 0, 1);
         Check.word(camp, 3, 1, 0, 1);

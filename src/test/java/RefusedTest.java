@@ -84,21 +84,11 @@ public final class RefusedTest {
         }
     }
 
-    private static Object reformed(Fieldgrammar camp, int lexeme) {
-        camp.reform(lexeme);
-        return "nothing";
-    }
-
-    private static Object ended(Fieldgrammar camp, int cell) {
-        camp.ending(cell);
-        return "nothing";
-    }
-
     private static void changesNothing() {
         check.term("A call that throws an exception changes nothing");
         Fieldgrammar camp = Camps.some();
         check.throwing("hear(0, 0, 4)", Check.BOUNDS, () -> camp.hear(0, 0, 4));
-        check.throwing("lexeme numbered 1", Check.BOUNDS, () -> reformed(camp, 1));
+        check.throwing("reform(1), gone", Check.BOUNDS, () -> Check.reformed(camp, 1));
         check.throwing("split(0, 256)", Check.ARGUMENT, () -> camp.split(0, 256));
         check.throwing("rule(0, 64, 0, 0)", Check.ARGUMENT, () -> camp.rule(0, 64, 0, 0));
         check.throwing("sound(3)", Check.STATE, () -> camp.sound(3));
@@ -155,19 +145,19 @@ public final class RefusedTest {
 
     private static void reform() {
         check.promise(7, "Throws `IndexOutOfBoundsException` if there is no such lexeme, or it is gone");
-        bounds(NO_LEXEME, "reform", (camp, lexeme) -> reformed(camp, lexeme));
+        bounds(NO_LEXEME, "reform", (camp, lexeme) -> Check.reformed(camp, lexeme));
         check.promise(7, "Throws `IllegalStateException` if the draft does not have 1 to 6 sounds");
-        state(() -> Camps.some(0), "reform(0) by none", camp -> reformed(camp, 0));
-        state(() -> Camps.some(7), "reform(0) by 7", camp -> reformed(camp, 0));
-        state(() -> Camps.full(8), "reform(15) by 8", camp -> reformed(camp, 15));
+        state(() -> Camps.some(0), "reform(0) by none", camp -> Check.reformed(camp, 0));
+        state(() -> Camps.some(7), "reform(0) by 7", camp -> Check.reformed(camp, 0));
+        state(() -> Camps.full(8), "reform(15) by 8", camp -> Check.reformed(camp, 15));
     }
 
     private static void ending() {
         check.promise(8, "Throws `IndexOutOfBoundsException` if there is no such cell");
-        bounds(NO_CELL, "ending", (camp, cell) -> ended(camp, cell));
+        bounds(NO_CELL, "ending", (camp, cell) -> Check.ended(camp, cell));
         check.promise(8, "Throws `IllegalStateException` if the draft has more than 2 sounds");
-        state(() -> Camps.some(3), "ending(0) of 3", camp -> ended(camp, 0));
-        state(() -> Camps.full(8), "ending(7) of 8", camp -> ended(camp, 7));
+        state(() -> Camps.some(3), "ending(0) of 3", camp -> Check.ended(camp, 0));
+        state(() -> Camps.full(8), "ending(7) of 8", camp -> Check.ended(camp, 7));
     }
 
     private static void rule() {
@@ -321,10 +311,10 @@ public final class RefusedTest {
         argument(Camps::full, "kind(0, -1) with 12", camp -> camp.kind(0, -1));
         bounds(() -> Camps.full(8), "put(16) with 8", camp -> camp.put(16));
         bounds(() -> Camps.some(8), "put(-1) with 8", camp -> camp.put(-1));
-        bounds(() -> Camps.some(0), "reform(6) by none", camp -> reformed(camp, 6));
-        bounds(() -> Camps.some(7), "reform(1), gone, by 7", camp -> reformed(camp, 1));
-        bounds(() -> Camps.some(3), "ending(8) of 3", camp -> ended(camp, 8));
-        bounds(() -> Camps.some(8), "ending(-1) of 8", camp -> ended(camp, -1));
+        bounds(() -> Camps.some(0), "reform(6) by none", camp -> Check.reformed(camp, 6));
+        bounds(() -> Camps.some(7), "reform(1), gone, by 7", camp -> Check.reformed(camp, 1));
+        bounds(() -> Camps.some(3), "ending(8) of 3", camp -> Check.ended(camp, 8));
+        bounds(() -> Camps.some(8), "ending(-1) of 8", camp -> Check.ended(camp, -1));
         bounds(() -> Camps.full(3), "hear(16, 0, 0) with 40", camp -> camp.hear(16, 0, 0));
         bounds(() -> Camps.full(3), "hear(0, 8, 0) with 40", camp -> camp.hear(0, 8, 0));
         bounds(() -> Camps.full(3), "hear(0, 0, 4) with 40", camp -> camp.hear(0, 0, 4));

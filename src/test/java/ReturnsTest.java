@@ -401,6 +401,10 @@ public final class ReturnsTest {
         camp.turn(0, false);
         check.due("off", camp.step(0, 0, 0), 0);
         check.due("four left out", camp.step(0, 0, 2), 4);
+        camp.turn(1, true);
+        camp.raise(2);
+        check.due("four left out ahead of the rule that turns", camp.step(0, 0, 2), 4);
+        check.due("none left for that one", camp.step(0, 0, 1), 0);
     }
 
     private static void stepWithExceptions() {

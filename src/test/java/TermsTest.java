@@ -25,6 +25,7 @@ public final class TermsTest {
         wordsThatWereForgotten();
         formsOfWords();
         draftIsTakenByWords();
+        draftIsTakenNowhereElse();
         check.close();
     }
 
@@ -245,12 +246,7 @@ public final class TermsTest {
         Check.ending(camp, 3);
         check.due("of none", Check.spoken(camp, 0, 3), "0");
         Check.draft(camp, 1, 1, 1);
-        check.throwing("of 3", Check.STATE, () -> ended(camp));
-    }
-
-    private static Object ended(Fieldgrammar camp) {
-        camp.ending(3);
-        return "nothing";
+        check.throwing("of 3", Check.STATE, () -> Check.ended(camp, 3));
     }
 
     private static void draftIsTakenByLexemes() {
@@ -340,5 +336,37 @@ public final class TermsTest {
         camp.except(0, 0, false);
         camp.forget(0);
         check.due("wipe() behind taking back and forget, which do not take it", camp.wipe(), 3);
+    }
+
+    /** What neither takes nor changes the draft leaves it as it is: its two sounds are put once, and heard at last. */
+    private static void draftIsTakenNowhereElse() {
+        check.term("the draft is empty then, where it is taken");
+        Fieldgrammar camp = Check.campWithThree();
+        int word = Check.word(camp, 0, 0, 0, 0);
+        int all = camp.kind(0, 0);
+        int rule = camp.rule(all, 1, ANY, ANY);
+        Check.draft(camp, 3, 1);
+        camp.sound(4);
+        camp.kind(0, 0);
+        camp.rule(all, 2, ANY, ANY);
+        camp.merge(1, 0);
+        camp.split(0, 1);
+        camp.undo();
+        camp.length(0, 0);
+        camp.at(0, 0, 0);
+        camp.step(0, 0, rule);
+        camp.ofWord(word, 4);
+        camp.misfit(0);
+        camp.claims(rule, true);
+        camp.fitting();
+        camp.smallest();
+        camp.question();
+        camp.pairs(0, 1);
+        camp.holes(0);
+        camp.shared(0, 1);
+        camp.turn(rule, false);
+        camp.raise(rule);
+        camp.except(0, 7, true);
+        check.due("the draft", Check.spoken(camp, 0, 7), "3 1");
     }
 }
