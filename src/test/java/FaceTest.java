@@ -1,12 +1,18 @@
+import java.io.IOException;
 import java.lang.reflect.Constructor;
 import java.lang.reflect.Field;
 import java.lang.reflect.Method;
 import java.lang.reflect.Modifier;
+import java.nio.file.Files;
+import java.nio.file.Path;
 import java.util.Arrays;
 import java.util.Set;
 import java.util.TreeSet;
 
-/** The public face of the document, with what each call may throw, and no other member that can be seen. */
+/**
+ * The public face of the document, with what each call may throw, and no other member that can be seen. Run from the
+ * project's folder.
+ */
 public final class FaceTest {
     private static final String BOUNDS = " IndexOutOfBoundsException";
     private static final String ARGUMENT = " IllegalArgumentException";
@@ -47,9 +53,12 @@ public final class FaceTest {
         "int holes(int)" + BOUNDS,
         "int shared(int, int)" + BOUNDS);
 
-    public static void main(String[] args) {
+    private static final Path SOURCE = Path.of("src/main/java/Fieldgrammar.java");
+
+    public static void main(String[] args) throws IOException {
         Check check = new Check();
         check.due("the face", seen(), new TreeSet<>(FACE));
+        wordForWord(check);
         check.due("modifiers", Modifier.toString(Fieldgrammar.class.getModifiers()), "public final");
         for (String name : new String[] {"NONE", "ANY", "EDGE"}) {
             check.due("modifiers of " + name, modifiersOf(name), "public static final");
@@ -66,6 +75,16 @@ public final class FaceTest {
             check.due(inside + " is static and not public", isStatic && !Modifier.isPublic(modifiers), true);
         }
         check.close();
+    }
+
+    /** Each member as the document's face writes it, but that a body stands behind a call. */
+    private static void wordForWord(Check check) throws IOException {
+        String source = Files.readString(SOURCE).replaceAll("\\s+", " ");
+        check.due("members of the document's face", Face.members().size(), 32);
+        for (String member : Face.members()) {
+            String written = member.contains("(") ? member.replace(";", " {") : member;
+            check.due("the class has: " + written, source.contains(written), true);
+        }
     }
 
     /** The members of the class that are not private. */
