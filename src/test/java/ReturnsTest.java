@@ -141,6 +141,13 @@ public final class ReturnsTest {
         check.due("the word fits", camp.ofWord(0, 4), 1);
         check.due("its exception stays", Check.spoken(camp, 1, 7), "3 3");
         check.due("another lexeme", Check.spoken(camp, 2, 0), "2");
+        for (int cell = 0; cell < 8; cell++) {
+            Check.exception(camp, 2, cell, 3, 3);
+        }
+        Check.draft(camp, 1).reform(2);
+        for (int cell = 0; cell < 8; cell++) {
+            check.due("its exception stays", Check.spoken(camp, 2, cell), "3 3");
+        }
     }
 
     private static void ending() {
